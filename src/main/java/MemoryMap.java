@@ -42,7 +42,7 @@ public final class MemoryMap {
 
     public int region(long from, long n, int rights) {
         // Written without from + n, which could wrap around.
-        boolean inside = n >= 1 && n <= size && from >= 0 && from <= size - n;
+        boolean inside = n >= 1 && from >= 0 && from <= size - n;
         if (!inside || !isWithin(rights, 0, MAX_RIGHTS)) {
             return OUT_OF_RANGE;
         }
@@ -275,7 +275,7 @@ public final class MemoryMap {
             count = 0;
         }
 
-        /** The least aligned address from one on with so many octets free; memory's end is not looked at. */
+        /** The least aligned address with so many free octets, as if the region had no end. */
         private int leastFree(int from, int length, int align) {
             int start = alignedUp(from, align);
             for (int i = 0; i < count && starts[i] < start + length; i++) {
@@ -302,7 +302,7 @@ public final class MemoryMap {
         }
 
         private static int alignedUp(int address, int align) {
-            // No section has an alignment below 1; the divisor is looked at where it divides all the same.
+            // No section has an alignment below 1, but a divisor is looked at where it divides.
             return align < 1 ? address : (address + align - 1) / align * align;
         }
     }

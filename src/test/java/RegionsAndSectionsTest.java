@@ -69,6 +69,8 @@ public final class RegionsAndSectionsTest {
         Check.same("rights -1", map.region(0, 1, -1), -2);
         Check.same("a sum that wraps", map.region(Long.MAX_VALUE, Long.MAX_VALUE, 0), -2);
         Check.same("a sum that wraps to 1", map.region(Long.MAX_VALUE, Long.MIN_VALUE + 2, 0), -2);
+        Check.same("from the greatest", map.region(Long.MAX_VALUE, 1, 0), -2);
+        Check.same("from the greatest, n the size", map.region(Long.MAX_VALUE, 100, 0), -2);
         Check.same("n the greatest", map.region(1, Long.MAX_VALUE, 0), -2);
         Check.same("from the least", map.region(Long.MIN_VALUE, 1, 0), -2);
         Check.same("n beyond an int", map.region(0, 4294967297L, 0), -2);
