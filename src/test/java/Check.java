@@ -5,18 +5,23 @@ final class Check {
         long answer();
     }
 
+    private static String sentence = "";
     private static int right = 0;
     private static int wrong = 0;
 
     private Check() {
     }
 
+    /** The document's own words that the checks from here on look at. */
+    static void sentence(String words) {
+        sentence = "[" + words + "] ";
+    }
+
     static void same(String what, long got, long due) {
         if (got == due) {
             right++;
         } else {
-            wrong++;
-            System.out.println(what + " answered " + got + ", due is " + due);
+            isWrong(what + " answered " + got + ", due is " + due);
         }
     }
 
@@ -27,8 +32,7 @@ final class Check {
     static void throwsExactly(String what, Class<? extends RuntimeException> due, Call call) {
         try {
             long got = call.answer();
-            wrong++;
-            System.out.println(what + " answered " + got + ", due is " + due.getSimpleName());
+            isWrong(what + " answered " + got + ", due is " + due.getSimpleName());
         } catch (RuntimeException e) {
             isTrue(what + " threw " + e + ", due is " + due.getSimpleName(), e.getClass() == due);
         }
@@ -39,5 +43,10 @@ final class Check {
         if (wrong != 0 || right == 0) {
             System.exit(1);
         }
+    }
+
+    private static void isWrong(String text) {
+        wrong++;
+        System.out.println(sentence + text);
     }
 }
