@@ -55,7 +55,7 @@ public final class FaceTest {
         }
     }
 
-    private static String text(Method method) {
+    static String text(Method method) {
         StringBuilder text = new StringBuilder();
         text.append(method.getReturnType().getName()).append(' ').append(method.getName()).append('(');
         String between = "";
