@@ -9,6 +9,11 @@ final class LongRun {
         map = new MemoryMap(size);
     }
 
+    /** The object itself; each call of it is told by next(). */
+    MemoryMap map() {
+        return map;
+    }
+
     /** The object, for the one call that comes next. */
     MemoryMap next() {
         calls++;

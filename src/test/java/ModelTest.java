@@ -24,6 +24,9 @@ public final class ModelTest {
     private final PlainModel model;
     private final int size;
     private final int[] weights;
+    /** A method that half of the runs call far more often than the others. */
+    private final int favourite;
+    private final boolean favours;
     /** Some runs have short sections, short regions or few rings, so that there is room for more. */
     private final int greatestLength;
     private final int greatestRegion;
@@ -36,6 +39,8 @@ public final class ModelTest {
         map = new MemoryMap(size);
         model = new PlainModel(size);
         weights = WEIGHTS[run % WEIGHTS.length];
+        favourite = byWeight();
+        favours = random.nextBoolean();
         greatestLength = 1 + random.nextInt(1 + size / (2 + random.nextInt(60)));
         greatestRegion = 1 + size / (4 + random.nextInt(40));
         ringsOneIn = 2 + random.nextInt(300);
@@ -76,13 +81,18 @@ public final class ModelTest {
     }
 
     private Method chosen() {
+        boolean again = favours && random.nextInt(3) != 0;
+        return Method.values()[again ? favourite : byWeight()];
+    }
+
+    private int byWeight() {
         int rest = random.nextInt(100);
         int method = 0;
         while (rest >= weights[method]) {
             rest -= weights[method];
             method++;
         }
-        return Method.values()[method];
+        return method;
     }
 
     private void region() {
